@@ -314,9 +314,7 @@ public final class FoldedStrip {
     private int farthest() {
         int best = now.order;
         for (int order = 0; order < folds.size; order++) {
-            int distance = paths.distanceTo(order);
-            int most = paths.distanceTo(best);
-            if (distance > most || (distance == most && order < best)) best = order;
+            if (paths.distanceTo(order) > paths.distanceTo(best)) best = order;
         }
         return best;
     }
@@ -472,7 +470,7 @@ public final class FoldedStrip {
             leaves = many;
             size = 0;
             for (int leaf = 0; leaf < MOST_LEAVES; leaf++) placeNow[leaf] = NONE;
-            addBelow(0, 0);
+            addBelow(this, 0, 0);
         }
 
         int leafAt(int order, int place) {
@@ -500,17 +498,22 @@ public final class FoldedStrip {
             return find(code);
         }
 
-        private void addBelow(int place, int code) {
-            if (place >= leaves) {
-                keep(code);
+        // Goes no deeper than there are leaves.
+        private static void addBelow(Folds folds, int place, int code) {
+            if (place >= folds.leaves) {
+                folds.keep(code);
                 return;
             }
-            for (int leaf = 0; leaf < leaves; leaf++) {
-                if (placeNow[leaf] != NONE || crossesAbove(leaf, 0) || crossesAbove(leaf, 1)) continue;
-                placeNow[leaf] = place;
-                addBelow(place + 1, code | leaf << shiftOf(place));
-                placeNow[leaf] = NONE;
+            for (int leaf = 0; leaf < folds.leaves; leaf++) {
+                if (!folds.canComeNext(leaf)) continue;
+                folds.placeNow[leaf] = place;
+                addBelow(folds, place + 1, code | leaf << shiftOf(place));
+                folds.placeNow[leaf] = NONE;
             }
+        }
+
+        private boolean canComeNext(int leaf) {
+            return placeNow[leaf] == NONE && !crossesAbove(leaf, 0) && !crossesAbove(leaf, 1);
         }
 
         private void keep(int code) {
