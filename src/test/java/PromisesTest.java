@@ -478,12 +478,14 @@ public final class PromisesTest {
         write(y, "bbbb");
         y.strip();
         due.is("behind one of as many leaves", y.near(1), 1);
-        write(y, "lll");
-        y.strip();
-        due.is("behind one of fewer, lying in an order of the same number", y.near(5), 2);
-        write(y, "llll");
-        y.strip();
-        due.is("behind one of more, lying in an order of the same number", y.near(15), 3);
+        FoldedStrip z = of("lll");
+        due.is("of three", z.near(5), 2);
+        write(z, "llll");
+        z.strip();
+        due.is("of four, behind three in the order of the same number", z.near(15), 3);
+        write(z, "lll");
+        z.strip();
+        due.is("of three again", z.near(5), 2);
     }
 
     private static void far() {
