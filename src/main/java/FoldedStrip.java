@@ -49,7 +49,7 @@ public final class FoldedStrip {
     }
 
     public int strip() {
-        if (page.size < FEWEST_LEAVES || page.firstWrong() < page.size) return STATE;
+        if (page.size < FEWEST_LEAVES || page.size > MOST_LEAVES || page.firstWrong() < page.size) return STATE;
         for (int leaf = 0; leaf < page.size; leaf++) now.kinds[leaf] = page.kindAt(leaf);
         folds.foldAll(page.size);
         page.size = 0;

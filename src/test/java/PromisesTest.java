@@ -6,8 +6,8 @@
  * 8 2013, 9 2103, 10 2301, 11 2310, 12 3012, 13 3102, 14 3201, 15 3210.
  */
 public final class PromisesTest {
-    private static final int NONE = -1, UNKNOWN = -101, OUTSIDE = -102, STATE = -103, FULL = -104;
-    private static final int MIN = Integer.MIN_VALUE, MAX = Integer.MAX_VALUE;
+    private static final int NONE = Strips.NONE, UNKNOWN = Strips.UNKNOWN, OUTSIDE = Strips.OUTSIDE;
+    private static final int STATE = Strips.STATE, FULL = Strips.FULL, MIN = Strips.MIN, MAX = Strips.MAX;
     private static final String ORDERS_OF_FOUR =
             "0123 0132 0231 0321 1023 1032 1230 1320 2013 2103 2301 2310 3012 3102 3201 3210";
 
@@ -48,38 +48,6 @@ public final class PromisesTest {
         Due.finish();
     }
 
-    private static void write(FoldedStrip x, String text) {
-        for (char sign : text.toCharArray()) x.letter(sign);
-    }
-
-    private static FoldedStrip of(String text) {
-        FoldedStrip x = new FoldedStrip();
-        write(x, text);
-        if (x.strip() != text.length()) throw new IllegalStateException(text);
-        return x;
-    }
-
-    private static String lie(FoldedStrip x) {
-        StringBuilder text = new StringBuilder();
-        for (int place = 0; place < x.count(0); place++) text.append(x.at(place));
-        return text.toString();
-    }
-
-    private static String counts(FoldedStrip x) {
-        StringBuilder text = new StringBuilder();
-        for (int what = 0; what <= 9; what++) text.append(what == 0 ? "" : " ").append(x.count(what));
-        return text.toString();
-    }
-
-    /** All that can be told, for calls that are refused or only ask: they change nothing. */
-    private static String all(FoldedStrip x) {
-        StringBuilder text = new StringBuilder();
-        text.append(lie(x)).append(' ').append(counts(x)).append(' ').append(x.digest());
-        text.append(' ').append(x.could()).append(' ').append(x.trial()).append(' ').append(x.fault());
-        for (int leaf = 0; leaf < x.count(0); leaf++) text.append(' ').append(x.leaf(leaf, 0));
-        return text.toString();
-    }
-
     private static void constants() {
         Due due = new Due("the constants");
         due.is("NONE", FoldedStrip.NONE, NONE);
@@ -92,7 +60,7 @@ public final class PromisesTest {
     private static void newObject() {
         Due due = new Due("promise 1");
         FoldedStrip x = new FoldedStrip();
-        due.row("count", counts(x), "0 0 0 0 0 0 0 0 0 0");
+        due.row("count", Strips.counts(x), "0 0 0 0 0 0 0 0 0 0");
         due.is("leaf(0, 0)", x.leaf(0, 0), UNKNOWN);
         due.is("as(0, 0)", x.as(0, 0), UNKNOWN);
         due.is("hinge(0, 0)", x.hinge(0, 0), UNKNOWN);
@@ -119,7 +87,7 @@ public final class PromisesTest {
         due.is("blank()", x.blank(), 0);
         due.is("fault()", x.fault(), 0);
         due.is("strip()", x.strip(), STATE);
-        due.row("count", counts(x), "0 0 0 0 0 0 0 0 0 0");
+        due.row("count", Strips.counts(x), "0 0 0 0 0 0 0 0 0 0");
     }
 
     private static void letter() {
@@ -140,13 +108,13 @@ public final class PromisesTest {
     private static void blank() {
         Due due = new Due("promise 3");
         FoldedStrip x = new FoldedStrip();
-        write(x, "lxw");
+        Strips.write(x, "lxw");
         due.is("blank()", x.blank(), 3);
         due.is("blank()", x.blank(), 0);
         due.is("count(8)", x.count(8), 0);
         due.is("fault()", x.fault(), 0);
-        FoldedStrip y = of("lbw");
-        write(y, "tt");
+        FoldedStrip y = Strips.of("lbw");
+        Strips.write(y, "tt");
         due.is("blank()", y.blank(), 2);
         due.is("leaves", y.count(0), 3);
     }
@@ -157,7 +125,7 @@ public final class PromisesTest {
         int[] faults = {0, 1, 5, 1, 0, 0, 1, 7, 7, 7, 7, 6, 0, 0, 0, 0, 0};
         for (int text = 0; text < texts.length; text++) {
             FoldedStrip x = new FoldedStrip();
-            write(x, texts[text]);
+            Strips.write(x, texts[text]);
             due.is("fault() of " + texts[text], x.fault(), faults[text]);
             due.is("letters of " + texts[text], x.count(8), texts[text].length());
         }
@@ -171,36 +139,36 @@ public final class PromisesTest {
     private static void strip() {
         Due due = new Due("promise 5");
         for (String none : new String[] {"", "l", "t", "lx", "xl", "llllllll", "lllllllll", "LL", "lllllllx"}) {
-            FoldedStrip x = of("cb");
+            FoldedStrip x = Strips.of("cb");
             x.move(0, 1);
             x.image();
             x.see(0, 1, true);
-            write(x, none);
-            String before = all(x);
+            Strips.write(x, none);
+            String before = Strips.state(x);
             due.is("strip() of " + none, x.strip(), STATE);
-            due.row("all", all(x), before);
+            due.row("all", Strips.state(x), before);
             due.is("the image is still kept", x.restore(), 1);
         }
         for (String text : new String[] {"ll", "cbwt", "ttttttt"}) {
             FoldedStrip x = new FoldedStrip();
-            write(x, text);
+            Strips.write(x, text);
             due.is("strip() of " + text, x.strip(), text.length());
-            due.row("lies zigzag", lie(x), "0123456".substring(0, text.length()));
+            due.row("lies zigzag", Strips.lie(x), "0123456".substring(0, text.length()));
             due.is("the page", x.count(8), 0);
             due.is("the order", x.orders(2), 0);
         }
-        FoldedStrip x = of("llll");
+        FoldedStrip x = Strips.of("llll");
         x.move(0, 3);
         x.see(0, 1, true);
         x.image();
-        write(x, "wbc");
+        Strips.write(x, "wbc");
         due.is("strip() of wbc", x.strip(), 3);
-        due.row("count", counts(x), "3 7 0 0 3 6 0 0 0 2");
-        due.row("lies", lie(x), "012");
+        due.row("count", Strips.counts(x), "3 7 0 0 3 6 0 0 0 2");
+        due.row("lies", Strips.lie(x), "012");
         due.is("restore()", x.restore(), STATE);
         due.is("could()", x.could(), 6);
         x.image();
-        write(x, "wbc");
+        Strips.write(x, "wbc");
         x.strip();
         due.is("restore() behind the same text read again", x.restore(), STATE);
         due.is("near(5)", x.near(5), 2);
@@ -208,7 +176,7 @@ public final class PromisesTest {
 
     private static void leaf() {
         Due due = new Due("promise 6");
-        FoldedStrip x = of("lbwct");
+        FoldedStrip x = Strips.of("lbwct");
         int[] thick = {1, 3, 1, 3, 1};
         int[] content = {1, 1, 1, 0, 0};
         for (int leaf = 0; leaf < 5; leaf++) {
@@ -235,7 +203,7 @@ public final class PromisesTest {
     }
 
     private static void contentOf(Due due, String text, String want) {
-        FoldedStrip x = of(text);
+        FoldedStrip x = Strips.of(text);
         StringBuilder got = new StringBuilder();
         for (int leaf = 0; leaf < text.length(); leaf++) got.append(x.leaf(leaf, 3));
         due.row("content in " + text, got.toString(), want);
@@ -243,7 +211,7 @@ public final class PromisesTest {
 
     private static void as() {
         Due due = new Due("promise 7");
-        FoldedStrip x = of("lbwct");
+        FoldedStrip x = Strips.of("lbwct");
         String[] such = {"11111", "01010", "00101", "00010", "00001"};
         for (int kind = 0; kind < 5; kind++) {
             for (int leaf = 0; leaf < 5; leaf++) {
@@ -257,7 +225,7 @@ public final class PromisesTest {
 
     private static void hinge() {
         Due due = new Due("promise 8");
-        FoldedStrip x = of("lbcl");
+        FoldedStrip x = Strips.of("lbcl");
         for (int hinge = 0; hinge < 3; hinge++) {
             due.is("side of " + hinge, x.hinge(hinge, 0), hinge % 2);
             due.is("width of " + hinge, x.hinge(hinge, 1), 0);
@@ -273,13 +241,13 @@ public final class PromisesTest {
         for (int hinge : new int[] {-1, 3, 4, MIN, MAX}) due.is("hinge " + hinge, x.hinge(hinge, 0), UNKNOWN);
         for (int what : new int[] {-1, 2, MIN, MAX}) due.is("hinge for " + what, x.hinge(0, what), OUTSIDE);
         due.is("hinge(3, 2)", x.hinge(3, 2), UNKNOWN);
-        due.is("the last hinge of seven", of("lllllll").hinge(5, 0), 1);
-        due.is("no hinge of seven", of("lllllll").hinge(6, 0), UNKNOWN);
+        due.is("the last hinge of seven", Strips.of("lllllll").hinge(5, 0), 1);
+        due.is("no hinge of seven", Strips.of("lllllll").hinge(6, 0), UNKNOWN);
     }
 
     private static void at() {
         Due due = new Due("promise 9");
-        FoldedStrip x = of("llll");
+        FoldedStrip x = Strips.of("llll");
         String[] lies = ORDERS_OF_FOUR.split(" ");
         for (int order = 0; order < lies.length; order++) {
             x.lay(order);
@@ -292,52 +260,52 @@ public final class PromisesTest {
 
     private static void may() {
         Due due = new Due("promise 10");
-        FoldedStrip x = of("llll");
+        FoldedStrip x = Strips.of("llll");
         String[] may = {"1101", "1101", "1011", "1011"};
-        String before = all(x);
+        String before = Strips.state(x);
         for (int leaf = 0; leaf < 4; leaf++) {
             for (int place = 0; place < 4; place++) {
                 due.is("may(" + leaf + ", " + place + ")", x.may(leaf, place), may[leaf].charAt(place) - '0');
             }
         }
-        due.row("all", all(x), before);
+        due.row("all", Strips.state(x), before);
         for (int no : new int[] {-1, 4, 7, MIN, MAX}) {
             due.is("may(" + no + ", 0)", x.may(no, 0), UNKNOWN);
             due.is("may(0, " + no + ")", x.may(0, no), UNKNOWN);
         }
-        due.is("fit or not", of("cc").may(0, 1) + of("tl").may(1, 0) + of("clc").may(0, 1), 3);
+        due.is("fit or not", Strips.of("cc").may(0, 1) + Strips.of("tl").may(1, 0) + Strips.of("clc").may(0, 1), 3);
     }
 
     private static void move() {
         Due due = new Due("promise 11");
-        FoldedStrip x = of("llll");
+        FoldedStrip x = Strips.of("llll");
         due.is("move(0, 3)", x.move(0, 3), 1);
-        due.row("lies", lie(x), "1230");
+        due.row("lies", Strips.lie(x), "1230");
         due.is("moves", x.count(6), 1);
-        String before = all(x);
+        String before = Strips.state(x);
         due.is("at its own place", x.move(0, 3), STATE);
         due.is("not folded", x.move(1, 1), STATE);
         for (int no : new int[] {-1, 4, 7, MIN, MAX}) {
             due.is("move(" + no + ", 0)", x.move(no, 0), UNKNOWN);
             due.is("move(0, " + no + ")", x.move(0, no), UNKNOWN);
         }
-        due.row("all", all(x), before);
+        due.row("all", Strips.state(x), before);
         due.is("move(2, 2)", x.move(2, 2), 2);
-        due.row("lies", lie(x), "1320");
+        due.row("lies", Strips.lie(x), "1320");
         due.is("moves", x.count(6), 2);
-        FoldedStrip y = of("tctc");
+        FoldedStrip y = Strips.of("tctc");
         due.is("not fit", y.move(3, 0), 1);
-        due.row("lies", lie(y), "3012");
+        due.row("lies", Strips.lie(y), "3012");
         due.is("back", y.move(3, 3), 0);
-        due.row("lies", lie(y), "0123");
+        due.row("lies", Strips.lie(y), "0123");
         due.is("up by one", y.move(1, 0), 1);
-        due.row("lies", lie(y), "1023");
+        due.row("lies", Strips.lie(y), "1023");
     }
 
     // Behind call 512 the answers are free, so this holds the guard alone, not what the document promises.
     private static void moveFull() {
         Due due = new Due("promise 11");
-        FoldedStrip x = of("ll");
+        FoldedStrip x = Strips.of("ll");
         for (int many = 0; many < 999; many++) due.is("move", x.move(0, 1 - many % 2), 0);
         due.is("moves", x.count(6), 999);
         due.is("none, and full", x.move(0, 1), STATE);
@@ -348,44 +316,44 @@ public final class PromisesTest {
 
     private static void turn() {
         Due due = new Due("promise 12");
-        FoldedStrip x = of("llll");
+        FoldedStrip x = Strips.of("llll");
         x.lay(2);
         due.is("turn()", x.turn(), 1);
-        due.row("lies", lie(x), "1320");
+        due.row("lies", Strips.lie(x), "1320");
         due.is("turn()", x.turn(), 0);
-        due.row("lies", lie(x), "0231");
+        due.row("lies", Strips.lie(x), "0231");
         due.is("moves", x.count(6), 0);
-        due.is("of seven", of("lllllll").turn(), 6);
+        due.is("of seven", Strips.of("lllllll").turn(), 6);
         due.is("of none", new FoldedStrip().turn(), STATE);
     }
 
     private static void lay() {
         Due due = new Due("promise 13");
-        FoldedStrip x = of("llll");
+        FoldedStrip x = Strips.of("llll");
         due.is("lay(15)", x.lay(15), 0);
-        due.row("lies", lie(x), "3210");
+        due.row("lies", Strips.lie(x), "3210");
         due.is("lay(6)", x.lay(6), 15);
-        due.row("lies", lie(x), "1230");
+        due.row("lies", Strips.lie(x), "1230");
         due.is("lay(6)", x.lay(6), 6);
         for (int order : new int[] {-1, 16, 462, MIN, MAX}) due.is("lay(" + order + ")", x.lay(order), UNKNOWN);
-        due.row("lies", lie(x), "1230");
+        due.row("lies", Strips.lie(x), "1230");
         due.is("moves", x.count(6), 0);
-        due.is("the last of seven", of("lllllll").lay(461), 0);
-        due.is("none of seven", of("lllllll").lay(462), UNKNOWN);
+        due.is("the last of seven", Strips.of("lllllll").lay(461), 0);
+        due.is("none of seven", Strips.of("lllllll").lay(462), UNKNOWN);
     }
 
     private static void change() {
         Due due = new Due("promise 14");
-        FoldedStrip x = of("lll");
+        FoldedStrip x = Strips.of("lll");
         for (int kind = 1; kind <= 4; kind++) due.is("change(1, " + kind + ")", x.change(1, kind), kind - 1);
         due.is("to the same", x.change(1, 4), 4);
         due.is("kind", x.leaf(1, 0), 4);
         due.is("fits: 012 021 102 120 201 210 with 1 within", x.orders(1), 2);
-        String before = all(x);
+        String before = Strips.state(x);
         for (int leaf : new int[] {-1, 3, 7, MIN, MAX}) due.is("change(" + leaf + ", 0)", x.change(leaf, 0), UNKNOWN);
         for (int kind : new int[] {-1, 5, MIN, MAX}) due.is("change(0, " + kind + ")", x.change(0, kind), OUTSIDE);
         due.is("change(3, 5)", x.change(3, 5), UNKNOWN);
-        due.row("all", all(x), before);
+        due.row("all", Strips.state(x), before);
         due.is("change(1, 0)", x.change(1, 0), 4);
         due.is("fits", x.orders(1), 6);
         due.is("thick", x.count(1), 3);
@@ -397,18 +365,18 @@ public final class PromisesTest {
         Due due = new Due("promise 15");
         int[] many = {2, 6, 16, 50, 144, 462};
         for (int leaves = 2; leaves <= 7; leaves++) {
-            FoldedStrip x = of("lllllll".substring(0, leaves));
+            FoldedStrip x = Strips.of("lllllll".substring(0, leaves));
             due.is("orders of " + leaves, x.orders(0), many[leaves - 2]);
             due.is("fits of " + leaves, x.orders(1), many[leaves - 2]);
         }
-        FoldedStrip x = of("clll");
+        FoldedStrip x = Strips.of("clll");
         due.is("fits of clll", x.orders(1), 8);
         due.is("orders of clll", x.orders(0), 16);
-        due.is("fits of ccll", of("ccll").orders(1), 4);
-        due.is("fits of cccl", of("cccl").orders(1), 0);
-        due.is("fits of tt", of("tt").orders(1), 0);
-        due.is("fits of ww", of("ww").orders(1), 0);
-        due.is("fits of wlw: 012, 210", of("wlw").orders(1), 2);
+        due.is("fits of ccll", Strips.of("ccll").orders(1), 4);
+        due.is("fits of cccl", Strips.of("cccl").orders(1), 0);
+        due.is("fits of tt", Strips.of("tt").orders(1), 0);
+        due.is("fits of ww", Strips.of("ww").orders(1), 0);
+        due.is("fits of wlw: 012, 210", Strips.of("wlw").orders(1), 2);
         x.lay(12);
         due.is("which", x.orders(2), 12);
         due.is("3012 is not fit", x.orders(3), 0);
@@ -421,7 +389,7 @@ public final class PromisesTest {
 
     private static void order() {
         Due due = new Due("promise 16");
-        FoldedStrip x = of("lcbl");
+        FoldedStrip x = Strips.of("lcbl");
         String[] lies = ORDERS_OF_FOUR.split(" ");
         for (int order = 0; order < lies.length; order++) {
             StringBuilder got = new StringBuilder();
@@ -440,12 +408,12 @@ public final class PromisesTest {
         for (int order : new int[] {-1, 16, MIN, MAX}) due.is("order " + order, x.order(order, 0), UNKNOWN);
         for (int what : new int[] {-1, 2, 9, 17, MIN, MAX}) due.is("order for " + what, x.order(0, what), OUTSIDE);
         due.is("order(16, 2)", x.order(16, 2), UNKNOWN);
-        due.is("the last place of seven", of("lllllll").order(461, 16), 0);
+        due.is("the last place of seven", Strips.of("lllllll").order(461, 16), 0);
     }
 
     private static void tops() {
         Due due = new Due("promise 17");
-        FoldedStrip x = of("clll");
+        FoldedStrip x = Strips.of("clll");
         int[] fit = {4, 2, 1, 1};
         for (int leaf = 0; leaf < 4; leaf++) {
             due.is("tops(" + leaf + ", 0)", x.tops(leaf, 0), 4);
@@ -458,7 +426,7 @@ public final class PromisesTest {
 
     private static void near() {
         Due due = new Due("promise 18");
-        FoldedStrip x = of("lll");
+        FoldedStrip x = Strips.of("lll");
         int[] fromFirst = {0, 1, 1, 1, 1, 2};
         for (int order = 0; order < 6; order++) due.is("near(" + order + ")", x.near(order), fromFirst[order]);
         x.lay(5);
@@ -467,30 +435,30 @@ public final class PromisesTest {
         x.move(0, 0);
         due.is("behind a move", x.near(5), 1);
         for (int order : new int[] {-1, 6, MIN, MAX}) due.is("near(" + order + ")", x.near(order), UNKNOWN);
-        FoldedStrip y = of("lllllll");
+        FoldedStrip y = Strips.of("lllllll");
         due.is("0143265 cannot be come to", y.near(15), NONE);
         y.lay(15);
         due.is("nor back", y.near(0), NONE);
         due.is("to itself", y.near(15), 0);
-        write(y, "llll");
+        Strips.write(y, "llll");
         y.strip();
         due.is("behind another strip", y.near(15), 3);
-        write(y, "bbbb");
+        Strips.write(y, "bbbb");
         y.strip();
         due.is("behind one of as many leaves", y.near(1), 1);
-        FoldedStrip z = of("lll");
+        FoldedStrip z = Strips.of("lll");
         due.is("of three", z.near(5), 2);
-        write(z, "llll");
+        Strips.write(z, "llll");
         z.strip();
         due.is("of four, behind three in the order of the same number", z.near(15), 3);
-        write(z, "lll");
+        Strips.write(z, "lll");
         z.strip();
         due.is("of three again", z.near(5), 2);
     }
 
     private static void far() {
         Due due = new Due("promise 19");
-        FoldedStrip x = of("tll");
+        FoldedStrip x = Strips.of("tll");
         due.is("farthest", x.far(0), 2);
         due.is("which", x.far(1), 5);
         due.is("home", x.far(2), 1);
@@ -505,7 +473,7 @@ public final class PromisesTest {
         due.is("no home", x.far(2), NONE);
         due.is("which", x.far(3), NONE);
         due.is("farthest", x.far(0), 2);
-        FoldedStrip y = of("ll");
+        FoldedStrip y = Strips.of("ll");
         due.is("01 is home", y.far(2), 0);
         due.is("which", y.far(3), 0);
         due.is("farthest of two", y.far(0), 1);
@@ -520,7 +488,7 @@ public final class PromisesTest {
     /** Some orders of seven leaves cannot be come to from others: then a home there does not count. */
     private static void homeOutOfReach() {
         Due due = new Due("promise 19");
-        FoldedStrip x = of("clcllll");
+        FoldedStrip x = Strips.of("clcllll");
         x.lay(15);
         int fits = 0;
         int reached = 0;
@@ -555,7 +523,7 @@ public final class PromisesTest {
         trimOf(due, "tlt", NONE, NONE);
         trimOf(due, "wwl", 1, 1);
         trimOf(due, "wwb", 1, 3);
-        FoldedStrip x = of("lcll");
+        FoldedStrip x = Strips.of("lcll");
         x.lay(9);
         due.is("wherever it lies", x.trim(0), 4);
         for (int what : new int[] {-1, 2, MIN, MAX}) due.is("trim(" + what + ")", x.trim(what), OUTSIDE);
@@ -564,7 +532,7 @@ public final class PromisesTest {
     }
 
     private static void trimOf(Due due, String text, int which, int wide) {
-        FoldedStrip x = of(text);
+        FoldedStrip x = Strips.of(text);
         due.is("trim(0) of " + text, x.trim(0), which);
         due.is("trim(1) of " + text, x.trim(1), wide);
     }
@@ -573,7 +541,7 @@ public final class PromisesTest {
     private static void odds() {
         Due due = new Due("promise 21");
         for (String text : new String[] {"clll", "lwlwb", "ltlc"}) {
-            FoldedStrip x = of(text);
+            FoldedStrip x = Strips.of(text);
             for (int one = 0; one < text.length(); one++) {
                 for (int other = 0; other < text.length(); other++) {
                     due.is("odds of " + one + " above " + other, x.odds(one, other, 0), one == other ? UNKNOWN : 1);
@@ -581,11 +549,11 @@ public final class PromisesTest {
                 }
             }
         }
-        FoldedStrip none = of("tlt");
+        FoldedStrip none = Strips.of("tlt");
         due.is("none is fit, above", none.odds(0, 1, 0), 0);
         due.is("none is fit, below", none.odds(0, 1, 1), 1);
         due.is("none is fit, outside", none.odds(0, 1, 2), OUTSIDE);
-        FoldedStrip x = of("lll");
+        FoldedStrip x = Strips.of("lll");
         for (int no : new int[] {-1, 3, 7, MIN, MAX}) {
             due.is("odds(" + no + ", 0, 0)", x.odds(no, 0, 0), UNKNOWN);
             due.is("odds(0, " + no + ", 0)", x.odds(0, no, 0), UNKNOWN);
@@ -596,14 +564,14 @@ public final class PromisesTest {
 
     private static void see() {
         Due due = new Due("promise 22");
-        FoldedStrip x = of("lll");
+        FoldedStrip x = Strips.of("lll");
         for (int many = 1; many <= 6; many++) due.is("see", x.see(many % 3, 1 + many % 3, many % 2 == 0), many);
-        String before = all(x);
+        String before = Strips.state(x);
         due.is("the seventh", x.see(0, 1, true), FULL);
         due.is("the seventh, outside", x.see(0, 4, true), OUTSIDE);
         due.is("the seventh, unknown", x.see(3, 4, true), UNKNOWN);
-        due.row("all", all(x), before);
-        FoldedStrip y = of("lll");
+        due.row("all", Strips.state(x), before);
+        FoldedStrip y = Strips.of("lll");
         for (int leaf : new int[] {-1, 3, 7, MIN, MAX}) due.is("see(" + leaf + ")", y.see(leaf, 1, true), UNKNOWN);
         for (int deep : new int[] {0, -1, 4, 8, MIN, MAX}) due.is("see so deep " + deep, y.see(0, deep, true), OUTSIDE);
         due.is("see(3, 0)", y.see(3, 0, false), UNKNOWN);
@@ -613,7 +581,7 @@ public final class PromisesTest {
 
     private static void forget() {
         Due due = new Due("promise 23");
-        FoldedStrip x = of("lll");
+        FoldedStrip x = Strips.of("lll");
         due.is("forget()", x.forget(), 0);
         x.see(0, 1, true);
         x.see(1, 2, true);
@@ -626,7 +594,7 @@ public final class PromisesTest {
 
     private static void could() {
         Due due = new Due("promise 24");
-        FoldedStrip x = of("tct");
+        FoldedStrip x = Strips.of("tct");
         due.is("could(), fit or not", x.could(), 6);
         x.see(0, 1, true);
         due.is("0 on top", x.could(), 2);
@@ -647,7 +615,7 @@ public final class PromisesTest {
 
     private static void trial() {
         Due due = new Due("promise 25");
-        FoldedStrip x = of("lll");
+        FoldedStrip x = Strips.of("lll");
         due.is("of six, four at worst at each depth below three", x.trial(), 10);
         x.see(0, 1, true);
         due.is("of 012, 021 one by 1, two deep", x.trial(), 21);
@@ -655,12 +623,12 @@ public final class PromisesTest {
         due.is("of one, one, by any", x.trial(), 10);
         x.see(1, 2, false);
         due.is("of none", x.trial(), NONE);
-        due.is("of two", of("ll").trial(), 10);
-        FoldedStrip y = of("llll");
+        due.is("of two", Strips.of("ll").trial(), 10);
+        FoldedStrip y = Strips.of("llll");
         due.is("of 16, eight, two deep", y.trial(), 20);
         y.see(3, 1, true);
         due.is("of 3012, 3102, 3201, 3210 two by 2, two deep", y.trial(), 22);
-        FoldedStrip z = of("lllllll");
+        FoldedStrip z = Strips.of("lllllll");
         due.is("of 462, 264 at worst, by 0, three deep", z.trial(), 30);
         for (int leaf = 0; leaf < 6; leaf++) z.see(leaf, leaf + 1, true);
         due.is("of the zigzag alone", z.could() * 1000 + z.trial(), 1010);
@@ -671,10 +639,10 @@ public final class PromisesTest {
     // 23010, 7419, 16212, 4086; their rests by three, a leaf and a place each: 2 1, 0 1, 1 2, 0 0, 0 0.
     private static void shuffles() {
         Due due = new Due("promise 26");
-        FoldedStrip x = of("lll");
+        FoldedStrip x = Strips.of("lll");
         int[] done = {1, 2, 2, 3, 3};
         int[] order = {1, 4, 4, 1, 1};
-        String before = all(x);
+        String before = Strips.state(x);
         for (int times = 1; times <= 5; times++) {
             due.is("how many of " + times, x.shuffles(times, 1, 0), done[times - 1]);
             due.is("which after " + times, x.shuffles(times, 1, 1), order[times - 1]);
@@ -683,7 +651,7 @@ public final class PromisesTest {
         due.is("the seed after two", x.shuffles(2, 1, 2), 1147902781);
         due.is("a seed of 0", x.shuffles(1, 0, 2) >= 0 ? 1 : 0, 1);
         due.is("the highest seed", x.shuffles(99, MAX, 0) >= 0 ? 1 : 0, 1);
-        due.row("all", all(x), before);
+        due.row("all", Strips.state(x), before);
         for (int times : new int[] {0, -1, 100, MIN, MAX}) due.is("so many times " + times, x.shuffles(times, 1, 0), OUTSIDE);
         for (int seed : new int[] {-1, MIN}) due.is("a seed of " + seed, x.shuffles(1, seed, 0), OUTSIDE);
         for (int what : new int[] {-1, 3, MIN, MAX}) due.is("shuffles for " + what, x.shuffles(1, 1, what), OUTSIDE);
@@ -696,8 +664,8 @@ public final class PromisesTest {
 
     /** What would be, against the same moves done one by one. */
     private static void shufflesOfSeven(Due due, int seed) {
-        FoldedStrip x = of("lllllll");
-        FoldedStrip done = of("lllllll");
+        FoldedStrip x = Strips.of("lllllll");
+        FoldedStrip done = Strips.of("lllllll");
         long next = seed;
         for (int times = 1; times <= 99; times++) {
             next = (1103515245L * next + 12345) % (1L << 31);
@@ -714,25 +682,25 @@ public final class PromisesTest {
 
     private static void image() {
         Due due = new Due("promise 27");
-        FoldedStrip x = of("llll");
+        FoldedStrip x = Strips.of("llll");
         due.is("image()", x.image(), 0);
         x.move(0, 3);
         due.is("image(), the latest", x.image(), 1);
         x.move(0, 0);
         x.lay(15);
         due.is("restore()", x.restore(), 1);
-        due.row("lies", lie(x), "1230");
+        due.row("lies", Strips.lie(x), "1230");
         due.is("no strip", new FoldedStrip().image(), STATE);
     }
 
     private static void restore() {
         Due due = new Due("promise 28");
-        FoldedStrip x = of("cwlt");
+        FoldedStrip x = Strips.of("cwlt");
         due.is("none was kept", x.restore(), STATE);
         x.move(0, 3);
         x.see(1, 2, false);
         x.see(2, 4, true);
-        String before = all(x);
+        String before = Strips.state(x);
         x.image();
         x.move(0, 0);
         x.change(0, 4);
@@ -740,38 +708,38 @@ public final class PromisesTest {
         x.forget();
         x.see(0, 1, true);
         due.is("restore()", x.restore(), 1);
-        due.row("all", all(x), before);
+        due.row("all", Strips.state(x), before);
         x.turn();
         x.forget();
         due.is("restore(), again", x.restore(), 1);
-        due.row("all", all(x), before);
+        due.row("all", Strips.state(x), before);
         due.is("seen", x.see(0, 1, true), 3);
-        write(x, "lx");
+        Strips.write(x, "lx");
         due.is("restore() minds no page", x.restore(), 1);
         due.is("letters", x.count(8), 2);
         due.is("strip() is refused", x.strip(), STATE);
         due.is("restore() then", x.restore(), 1);
         x.blank();
-        write(x, "cwlt");
+        Strips.write(x, "cwlt");
         x.strip();
         due.is("another strip since", x.restore(), STATE);
-        due.row("count", counts(x), "4 6 0 0 3 8 0 0 0 2");
+        due.row("count", Strips.counts(x), "4 6 0 0 3 8 0 0 0 2");
         due.is("no strip", new FoldedStrip().restore(), STATE);
     }
 
     private static void count() {
         Due due = new Due("promise 29");
-        FoldedStrip x = of("lwbt");
-        write(x, "xyz");
-        due.row("count in 0123", counts(x), "4 6 0 0 3 8 0 0 3 1");
+        FoldedStrip x = Strips.of("lwbt");
+        Strips.write(x, "xyz");
+        due.row("count in 0123", Strips.counts(x), "4 6 0 0 3 8 0 0 3 1");
         x.move(1, 3);
         x.see(0, 1, true);
         // 0231: hinge 0 has 2 and 3 between, hinge 1 has 3; 1 and 3 stick together.
-        due.row("count in 0231", counts(x), "4 6 4 2 2 " + moves("0231") + " 1 1 3 1");
+        due.row("count in 0231", Strips.counts(x), "4 6 4 2 2 " + moves("0231") + " 1 1 3 1");
         for (int what : new int[] {-1, 10, MIN, MAX}) due.is("count(" + what + ")", x.count(what), OUTSIDE);
-        due.row("count of none", counts(new FoldedStrip()), "0 0 0 0 0 0 0 0 0 0");
-        due.is("moves of two", of("ll").count(5), 2);
-        due.is("moves of three", of("lll").count(5), 6);
+        due.row("count of none", Strips.counts(new FoldedStrip()), "0 0 0 0 0 0 0 0 0 0");
+        due.is("moves of two", Strips.of("ll").count(5), 2);
+        due.is("moves of three", Strips.of("lll").count(5), 6);
     }
 
     /** How many moves there are of four leaves, by the list of their orders. */
@@ -794,7 +762,7 @@ public final class PromisesTest {
         x.letter(126);
         due.is("of a page", x.digest(), hash('x', 126, 0, 0, 0, 0, 0, 0, 0, 0, 2, 0));
         x.blank();
-        write(x, "cl");
+        Strips.write(x, "cl");
         x.strip();
         x.see(0, 1, true);
         x.move(0, 1);
@@ -806,7 +774,7 @@ public final class PromisesTest {
                 2, 2, 1, 1, 0, 0, 1, 2, 1,
                 't',
                 2, 4, 0, 0, 2, 2, 1, 1, 1, 1));
-        FoldedStrip y = of("tlt");
+        FoldedStrip y = Strips.of("tlt");
         y.lay(1);
         due.is("of tlt, lying 021", y.digest(), hash(
                 4, 1, 0, 0, 2, 0,
