@@ -2,7 +2,7 @@ import java.util.Random;
 
 /** Long runs of calls, and all strips of few leaves, each answer against that of the literal model. */
 public final class AgainstModelTest {
-    private static final int RUNS = 60, CALLS = 512;
+    private static final int RUNS = 70, CALLS = 440;
     private static final int[] ODD = {-1, 7, 8, 10, 16, 17, 127, 461, 462, Integer.MAX_VALUE, Integer.MIN_VALUE};
 
     private static final Due DUE = new Due("against the model");
@@ -142,22 +142,28 @@ public final class AgainstModelTest {
         same(strip.digest(), model.digest());
     }
 
-    /** From every order to every other one, and all single moves. */
+    /** From every order to every other one, and all single moves: each by a new object, for its 512 calls. */
     private static void everyWay(int leaves) {
-        start("wbltclb".substring(0, leaves));
-        for (int from = 0; from < model.orders(0); from++) {
-            told = leaves + " leaves in order " + from;
-            same(strip.lay(from), model.lay(from));
+        String text = "wbltclb".substring(0, leaves);
+        for (int from = 0; from < StripModel.foldedOrders(leaves).size(); from++) {
+            startFrom(text, from);
             for (int place = 0; place < leaves; place++) same(strip.at(place), model.at(place));
             for (int leaf = 0; leaf < leaves; leaf++) {
                 for (int place = 0; place < leaves; place++) same(strip.may(leaf, place), model.may(leaf, place));
             }
             for (int what = 0; what < 4; what++) same(strip.far(what), model.far(what));
+            same(strip.turn(), model.turn());
+            same(strip.orders(2), model.orders(2));
+            startFrom(text, from);
             int[] near = model.nearToEach();
             for (int order = 0; order < near.length; order++) same(strip.near(order), near[order]);
             same(strip.orders(0), near.length);
-            same(strip.turn(), model.turn());
-            same(strip.orders(2), model.orders(2));
         }
+    }
+
+    private static void startFrom(String text, int order) {
+        start(text);
+        told = text + " in order " + order;
+        same(strip.lay(order), model.lay(order));
     }
 }

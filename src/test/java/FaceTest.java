@@ -87,7 +87,7 @@ public final class FaceTest {
         long before = threads.getCurrentThreadAllocatedBytes();
         long without = threads.getCurrentThreadAllocatedBytes() - before;
         before = threads.getCurrentThreadAllocatedBytes();
-        for (int round = 0; round < 20; round++) useAll(x);
+        for (int round = 0; round < 15; round++) useAll(x);
         long made = threads.getCurrentThreadAllocatedBytes() - before - without;
         DUE.is("bytes that the calls made", Math.max(0, made), 0);
     }

@@ -24,7 +24,6 @@ public final class PromisesTest {
         at();
         may();
         move();
-        moveFull();
         turn();
         lay();
         change();
@@ -302,18 +301,6 @@ public final class PromisesTest {
         due.row("lies", Strips.lie(y), "1023");
     }
 
-    // Behind call 512 the answers are free, so this holds the guard alone, not what the document promises.
-    private static void moveFull() {
-        Due due = new Due("promise 11");
-        FoldedStrip x = Strips.of("ll");
-        for (int many = 0; many < 999; many++) due.is("move", x.move(0, 1 - many % 2), 0);
-        due.is("moves", x.count(6), 999);
-        due.is("none, and full", x.move(0, 1), STATE);
-        due.is("full", x.move(0, 0), FULL);
-        due.is("full, still", x.at(0), 1);
-        due.is("moves", x.count(6), 999);
-    }
-
     private static void turn() {
         Due due = new Due("promise 12");
         FoldedStrip x = Strips.of("llll");
@@ -493,24 +480,27 @@ public final class PromisesTest {
         int fits = 0;
         int reached = 0;
         for (int order = 0; order < 462; order++) {
-            fits += x.order(order, 0);
-            if (x.order(order, 0) == 1 && x.near(order) != NONE) reached++;
+            if (x.order(order, 0) == 0) continue;
+            fits++;
+            if (x.near(order) != NONE) reached++;
         }
         due.is("there are fit ones", fits > 0 ? 1 : 0, 1);
         due.is("but none that one comes to", reached, 0);
         due.is("home", x.far(2), NONE);
         due.is("which", x.far(3), NONE);
         due.is("trim minds no way", x.order(x.trim(0), 0), 1);
+        FoldedStrip y = Strips.of("clcllll");
+        y.lay(15);
         int most = 0;
         int which = NONE;
         for (int order = 0; order < 462; order++) {
-            if (x.near(order) > most) {
-                most = x.near(order);
-                which = order;
-            }
+            int near = y.near(order);
+            if (near <= most) continue;
+            most = near;
+            which = order;
         }
-        due.is("farthest, of those that one comes to", x.far(0), most);
-        due.is("which", x.far(1), which);
+        due.is("farthest, of those that one comes to", y.far(0), most);
+        due.is("which", y.far(1), which);
     }
 
     private static void trim() {
