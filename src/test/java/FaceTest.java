@@ -25,6 +25,7 @@ public final class FaceTest {
 
     public static void main(String[] args) throws IOException {
         members();
+        documentsFace();
         source(Files.readString(Path.of("src/main/java/FoldedStrip.java")));
         room();
         Due.finish();
@@ -62,6 +63,32 @@ public final class FaceTest {
         DUE.is("constructors", makers.length, 1);
         DUE.is("constructor", makers[0].getParameterCount(), 0);
         DUE.is("the class", FoldedStrip.class.getModifiers(), Modifier.PUBLIC | Modifier.FINAL);
+    }
+
+    /** Each line of the document's face: a constant with its value, the constructor, or a method that the class has. */
+    private static void documentsFace() {
+        String face = Doc.section("The public face");
+        if (face.isEmpty()) return;
+        DUE.is("the class", face.contains("public final class FoldedStrip {") ? 1 : 0, 1);
+        DUE.is("the constructor", face.contains("public FoldedStrip();") ? 1 : 0, 1);
+        Set<String> methods = new TreeSet<>();
+        Matcher line = Pattern.compile("public (\\w+ \\w+)\\(([^)]*)\\);").matcher(face);
+        while (line.find()) methods.add(line.group(1) + "(" + line.group(2).replaceAll("(\\w+) \\w+", "$1") + ")");
+        DUE.row("methods of the document", methods.toString(), new TreeSet<>(Arrays.asList(METHODS)).toString());
+        Matcher constants = Pattern.compile("public static final int ([^;]*);").matcher(face);
+        DUE.is("constants of the document", constants.find() ? 1 : 0, 1);
+        for (String constant : constants.group(1).split(", ")) {
+            String[] sides = constant.split(" = ");
+            DUE.is(sides[0], constantOf(sides[0]), Integer.parseInt(sides[1]));
+        }
+    }
+
+    private static int constantOf(String name) {
+        try {
+            return FoldedStrip.class.getField(name).getInt(null);
+        } catch (ReflectiveOperationException failed) {
+            throw new IllegalStateException(failed);
+        }
     }
 
     private static void source(String text) {
